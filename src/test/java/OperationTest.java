@@ -1,0 +1,256 @@
+/** Promises 27 and 30 to 37: kill, release, set, format, undo and the snapshot. */
+public final class OperationTest {
+    public static void main(String[] args) {
+        kill();
+        release();
+        set();
+        format();
+        longestFormat();
+        undo();
+        undoOfEach();
+        snapshot();
+        Check.end();
+    }
+
+    private static void kill() {
+        ShardGuard guard = Check.loaded("workers 3 size 2; restart 4; tenant 0 1; tenant 0 2;"
+            + "request 0 5; request 1 6; request 0 7; request 1 2; request 0 3 poisoned;");
+        String before = Check.everything(guard);
+        Check.noSuch("kill(-1)", () -> guard.kill(-1));
+        Check.noSuch("kill(3)", () -> guard.kill(3));
+        Check.equal("all behind exceptions", Check.everything(guard), before);
+        Check.equal("queue 0", Check.formatted(guard, 0), "w0 up 0:5 3:2 4!:3");
+        Check.equal("kill(0)", guard.kill(0), 2);
+        Check.equal("down", guard.worker(0, 0), 0);
+        Check.equal("its time", guard.worker(0, 1), 4);
+        Check.equal("no kill", guard.worker(0, 4), 0);
+        Check.equal("queue 0", guard.worker(0, 2), 0);
+        Check.equal("queue 1", Check.formatted(guard, 1), "w1 up 2:7 0:5 4!:3");
+        before = Check.everything(guard);
+        Check.equal("kill(0) again", guard.kill(0), -2);
+        Check.equal("all behind the error", Check.everything(guard), before);
+        Check.equal("kill(2)", guard.kill(2), 1);
+        Check.equal("kill(1)", guard.kill(1), 0);
+        Check.equal("undo", guard.undo(), 2);
+        Check.equal("undo", guard.undo(), 1);
+        Check.equal("all behind undo", Check.everything(guard), before);
+        guard.pass(3);
+        Check.equal("still down", guard.kill(0), -2);
+        guard.pass(1);
+        Check.equal("up again", guard.kill(0), 2);
+    }
+
+    private static void release() {
+        ShardGuard guard = Check.loaded("workers 2 size 1; limit 1; quarantine 9; tenant 0; tenant 1;"
+            + "request 0 1 poisoned;");
+        Check.equal("release of an open one", guard.release(0), -2);
+        Check.noSuch("release(-1)", () -> guard.release(-1));
+        Check.noSuch("release(2)", () -> guard.release(2));
+        Check.equal("undoCount", guard.undoCount(), 0);
+        guard.pass(1);
+        String before = Check.everything(guard);
+        Check.equal("release at once", guard.release(0), 9);
+        guard.undo();
+        Check.equal("all behind undo", Check.everything(guard), before);
+        guard.pass(8);
+        Check.equal("release in the end", guard.release(0), 1);
+        Check.equal("open", guard.tenant(0, 1), 0);
+        Check.equal("its end", guard.tenant(0, 2), ShardGuard.NONE);
+        Check.equal("release again", guard.release(0), -2);
+        Check.equal("release of the other", guard.release(1), -2);
+        Check.equal("undoCount", guard.undoCount(), 3);
+        Check.equal("what was refused stays so", guard.request(0, 4), 4);
+        Check.equal("no counted kills", guard.tenant(0, 7), 0);
+        guard.set(3, 99);
+        guard.pass(1);
+        Check.equal("still open", guard.tenant(0, 1), 0);
+    }
+
+    private static void set() {
+        ShardGuard guard = new ShardGuard();
+        int[] usual = {5, 2, 3, 20, 50};
+        int[] least = {1, 0, 1, 1, 1};
+        int[] greatest = {50, 5, 9, 99, 999};
+        for (int i = 0; i < 5; i++) {
+            int what = i;
+            Check.illegal("set(" + what + ", too small)", () -> guard.set(what, least[what] - 1));
+            Check.illegal("set(" + what + ", too great)", () -> guard.set(what, greatest[what] + 1));
+            Check.illegal("set(" + what + ", least int)", () -> guard.set(what, Integer.MIN_VALUE));
+            Check.equal("the setting", guard.setting(what), usual[what]);
+            Check.equal("undoCount", guard.undoCount(), 0);
+            Check.equal("set to the least", guard.set(what, least[what]), usual[what]);
+            Check.equal("set to the greatest", guard.set(what, greatest[what]), least[what]);
+            Check.equal("set to the same", guard.set(what, greatest[what]), greatest[what]);
+            Check.equal("undoCount", guard.undoCount(), 3);
+            guard.undo();
+            guard.undo();
+            Check.equal("behind undo", guard.setting(what), least[what]);
+            guard.undo();
+        }
+        Check.noSuch("set(-1, 1)", () -> guard.set(-1, 1));
+        Check.noSuch("set(5, 1)", () -> guard.set(5, 1));
+        Check.noSuch("set(5, -1)", () -> guard.set(5, -1));
+        Check.noSuch("set(greatest int, 0)", () -> guard.set(Integer.MAX_VALUE, 0));
+    }
+
+    private static void format() {
+        ShardGuard guard = Check.loaded("workers 12 size 1; restart 50; tenant 11; tenant 0; request 0 20;"
+            + "request 0 10 poisoned; request 0 9;");
+        Check.equal("formattedByte before", guard.formattedByte(0), ShardGuard.NONE);
+        Check.equal("format(11)", guard.format(11), 21);
+        Check.equal("its text", Check.lastFormatted(guard), "w11 up 0:20 1!:10 2:9");
+        Check.equal("formattedByte(-1)", guard.formattedByte(-1), ShardGuard.NONE);
+        Check.equal("formattedByte(20)", guard.formattedByte(20), '9');
+        Check.equal("formattedByte(21)", guard.formattedByte(21), ShardGuard.NONE);
+        Check.equal("formattedByte(least int)", guard.formattedByte(Integer.MIN_VALUE), ShardGuard.NONE);
+        Check.equal("formattedByte(greatest int)", guard.formattedByte(Integer.MAX_VALUE), ShardGuard.NONE);
+        guard.pass(1);
+        Check.equal("as it was then", Check.lastFormatted(guard), "w11 up 0:20 1!:10 2:9");
+        Check.equal("a shorter text", guard.format(0), 5);
+        Check.equal("nothing of the longer one", Check.lastFormatted(guard), "w0 up");
+        guard.kill(11);
+        Check.equal("a worker that is down", Check.formatted(guard, 11), "w11 down");
+        Check.noSuch("format(-1)", () -> guard.format(-1));
+        Check.noSuch("format(12)", () -> guard.format(12));
+        Check.equal("behind exceptions", Check.lastFormatted(guard), "w11 down");
+        guard.undo();
+        Check.equal("behind undo", Check.lastFormatted(guard), "w11 down");
+        Check.equal("now", Check.formatted(guard, 11), "w11 up 0:19 1!:10 2:9");
+        guard.saveSnapshot();
+        guard.restoreSnapshot();
+        Check.equal("behind restoreSnapshot", Check.lastFormatted(guard), "w11 up 0:19 1!:10 2:9");
+        Check.load(guard, "workers 2 size 1;");
+        Check.equal("behind load", Check.lastFormatted(guard), "w11 up 0:19 1!:10 2:9");
+    }
+
+    private static void longestFormat() {
+        StringBuilder due = new StringBuilder("w11 up");
+        ShardGuard guard = Check.loaded("workers 12 size 1; tenant 11;");
+        for (int i = 0; i < 60; i++) {
+            guard.submit(0, 20, true);
+            due.append(' ').append(i).append("!:20");
+        }
+        Check.equal("the length", guard.format(11), due.length());
+        Check.equal("the text", Check.lastFormatted(guard), due.toString());
+        Check.equal("the byte behind", guard.formattedByte(due.length()), ShardGuard.NONE);
+        Check.equal("the last byte", guard.formattedByte(due.length() - 1), '0');
+    }
+
+    private static void undo() {
+        ShardGuard guard = Check.loaded("workers 3 size 1; tenant 0; tenant 1;");
+        Check.equal("undo of nothing", guard.undo(), ShardGuard.NONE);
+        String[] all = new String[40];
+        for (int i = 0; i < 37; i++) {
+            all[i] = guardTold(guard);
+            change(guard, i);
+            Check.equal("undoCount", guard.undoCount(), Math.min(10, i + 1));
+        }
+        for (int i = 36; i >= 27; i--) {
+            Check.equal("undo", guard.undo(), i - 27);
+            Check.equal("undoCount", guard.undoCount(), i - 27);
+            Check.equal("all behind undo " + i, guardTold(guard), all[i]);
+        }
+        Check.equal("the 11th undo", guard.undo(), ShardGuard.NONE);
+        Check.equal("all behind it", guardTold(guard), all[27]);
+        // Operations behind undo are recorded anew.
+        change(guard, 1);
+        Check.equal("undoCount", guard.undoCount(), 1);
+        Check.equal("undo", guard.undo(), 0);
+        Check.equal("all behind undo", guardTold(guard), all[27]);
+        // Calls that are no operations are not recorded.
+        guard.format(0);
+        guard.saveSnapshot();
+        guard.bestSeed();
+        guard.doneBehind(200);
+        guard.poisonKills(0);
+        guard.poisonHarm(0);
+        guard.drawn(0, 5);
+        Check.query(guard, "many 0=0");
+        Check.equal("undoCount behind looks", guard.undoCount(), 0);
+        Check.equal("all behind looks", guardTold(guard), all[27]);
+    }
+
+    private static String guardTold(ShardGuard guard) {
+        String all = Check.everything(guard);
+        return all.substring(0, all.lastIndexOf("undo"));
+    }
+
+    private static void change(ShardGuard guard, int number) {
+        if (number % 5 == 0) {
+            guard.draw(number);
+        } else if (number % 5 == 1) {
+            guard.submit(number % 2, 1 + number % 3, true);
+        } else if (number % 5 == 2) {
+            guard.set(2, 1 + number % 9);
+        } else if (number % 5 == 3) {
+            guard.move(0, 1 << number % 3);
+        } else {
+            guard.pass(number);
+        }
+    }
+
+    private static void undoOfEach() {
+        ShardGuard guard = Check.loaded("workers 4 size 2; limit 2; restart 3; tenant 0 1; tenant 1 2; tenant 2 3;"
+            + "request 0 2 poisoned; request 0 7; request 1 4; request 1 5; request 2 6 poisoned;");
+        for (int i = 0; i < 9; i++) {
+            guard.pass(1 + i % 3);
+            String before = guardTold(guard);
+            int saved = guard.undoCount();
+            guard.submit(i % 3, 1 + i, i % 2 == 0);
+            guard.kill(i % 4);
+            guard.pass(1 + i);
+            guard.draw(i);
+            guard.move(i % 3, 12);
+            guard.set(i % 5, 2);
+            guard.release(i % 3);
+            for (int left = guard.undoCount(); left > saved; left--) {
+                guard.undo();
+            }
+            if (saved < 3) {
+                Check.equal("all behind undo of each", guardTold(guard), before);
+            }
+        }
+    }
+
+    private static void snapshot() {
+        ShardGuard guard = Check.loaded("workers 3 size 1; limit 1; tenant 0; tenant 1; request 0 1 poisoned; request 1 9;");
+        Check.equal("restore of nothing", guard.restoreSnapshot() ? 1 : 0, 0);
+        guard.pass(1);
+        Check.equal("restore of nothing", guard.restoreSnapshot() ? 1 : 0, 0);
+        Check.equal("nothing changes", guard.undoCount(), 1);
+        guard.saveSnapshot();
+        Check.equal("saving is not recorded", guard.undoCount(), 1);
+        String saved = guardTold(guard);
+        guard.pass(3);
+        guard.kill(2);
+        guard.release(0);
+        guard.draw(7);
+        guard.set(4, 3);
+        Check.equal("restore", guard.restoreSnapshot() ? 1 : 0, 1);
+        Check.equal("all behind restore", guardTold(guard), saved);
+        Check.equal("the history is cleared", guard.undo(), ShardGuard.NONE);
+        guard.pass(2);
+        Check.equal("undo behind restore", guard.undo(), 0);
+        Check.equal("all behind undo", guardTold(guard), saved);
+        guard.pass(5);
+        Check.equal("restore again", guard.restoreSnapshot() ? 1 : 0, 1);
+        Check.equal("all behind it", guardTold(guard), saved);
+        // A later snapshot replaces it; undo does not touch it.
+        guard.pass(1);
+        guard.saveSnapshot();
+        String later = guardTold(guard);
+        guard.undo();
+        Check.equal("all behind undo", guardTold(guard), saved);
+        guard.restoreSnapshot();
+        Check.equal("the later one", guardTold(guard), later);
+        // A load that fails keeps it, one that succeeds discards it.
+        Check.load(guard, "workers");
+        Check.equal("behind a failed load", guard.restoreSnapshot() ? 1 : 0, 1);
+        Check.load(guard, "workers 2 size 1;");
+        Check.equal("behind a load", guard.restoreSnapshot() ? 1 : 0, 0);
+        guard.saveSnapshot();
+        guard.set(0, 1);
+        Check.equal("one of the new text", guard.restoreSnapshot() ? 1 : 0, 1);
+        Check.equal("its setting", guard.setting(0), 5);
+    }
+}
