@@ -902,7 +902,7 @@ public final class ShardGuard {
                     busy |= 1 << worker;
                     requestTable.add(request, REST, -1);
                 }
-                if (isFirst && requestTable.at(request, REST) <= 0 && isFinished(request, worker)) {
+                if (isFirst && requestTable.at(request, REST) <= 0 && finish(request, worker)) {
                     leaveLine(place);
                 } else {
                     place++;
@@ -911,8 +911,8 @@ public final class ShardGuard {
             return upBefore & ~upMask;
         }
 
-        /** Ends a request that has no rest any more, unless it is poisoned: then it kills its worker. */
-        private boolean isFinished(int request, int worker) {
+        /** Ends a request without a rest; a poisoned one kills its worker instead, and the answer is false. */
+        private boolean finish(int request, int worker) {
             if (requestTable.at(request, POISONED) == 0) {
                 end(request, DONE);
                 return true;
@@ -1028,12 +1028,12 @@ public final class ShardGuard {
 
         /** Answers the best shard of a tenant. */
         int leastSharedShard(int tenant) {
-            int best = 0;
-            int least = Integer.MAX_VALUE;
+            int best = NONE;
+            int least = 0;
             for (int shard = 0; shard <= allWorkers(); shard++) {
                 if (Integer.bitCount(shard) == shardSize) {
                     int cost = sharingCost(tenant, shard);
-                    if (cost < least) {
+                    if (best == NONE || cost < least) {
                         least = cost;
                         best = shard;
                     }

@@ -9,6 +9,7 @@ public final class OperationTest {
         undo();
         undoOfEach();
         snapshot();
+        killsComeBack();
         Check.end();
     }
 
@@ -210,6 +211,31 @@ public final class OperationTest {
                 Check.equal("all behind undo of each", guardTold(guard), before);
             }
         }
+    }
+
+    /** Kills that were undone and made otherwise must come back as they were. */
+    private static void killsComeBack() {
+        ShardGuard guard = Check.loaded("workers 3 size 1; retries 0; window 99; limit 9; tenant 0; tenant 1;");
+        guard.submit(0, 1, true);
+        guard.pass(1);
+        guard.saveSnapshot();
+        String saved = guardTold(guard);
+        guard.undo();
+        guard.undo();
+        guard.pass(9);
+        guard.submit(1, 2, true);
+        String before = guardTold(guard);
+        guard.pass(3);
+        Check.equal("a kill of the other tenant", guard.tenant(1, 7), 1);
+        guard.undo();
+        Check.equal("all behind undo", guardTold(guard), before);
+        guard.pass(2);
+        guard.restoreSnapshot();
+        Check.equal("all behind restore", guardTold(guard), saved);
+        Check.equal("counted kills", guard.tenant(0, 7) * 10 + guard.tenant(1, 7), 10);
+        guard.set(3, 1);
+        guard.pass(1);
+        Check.equal("counted in a window of 1", guard.tenant(0, 7), 0);
     }
 
     private static void snapshot() {

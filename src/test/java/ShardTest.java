@@ -118,22 +118,38 @@ public final class ShardTest {
     private static void bestSeed() {
         Check.equal("of no tenant", new ShardGuard().bestSeed(), 0);
         Check.equal("of one tenant", fleet(5, 2, 1).bestSeed(), 0);
+        // With seed 100 the greatest overlap would be smaller than with all seeds before.
+        Check.equal("seed 100 is not tried", fleet(11, 4, 11).bestSeed(), bestOf(11, 4, 11));
+        Check.equal("a great seed", fleet(11, 1, 8).bestSeed(), 95);
+        // A text that fails leaves the fleet, and so what would be drawn.
+        ShardGuard kept = fleet(10, 3, 7);
+        int seed0 = kept.drawn(6, 0);
+        int best = kept.bestSeed();
+        Check.load(kept, "workers 2 size 1; tenant 0; #");
+        Check.equal("drawn behind a failed load", kept.drawn(6, 0), seed0);
+        Check.load(kept, "workers 2 size 1; tenant 0; #");
+        Check.equal("bestSeed behind a failed load", kept.bestSeed(), best);
         int different = 0;
         for (int tenants = 2; tenants <= 12; tenants++) {
             for (int size = 1; size <= 4; size++) {
                 ShardGuard guard = fleet(10, size, tenants);
-                int due = 0;
-                for (int seed = 99; seed >= 0; seed--) {
-                    if (greatest(draw(10, size, tenants, seed)) <= greatest(draw(10, size, tenants, due))) {
-                        due = seed;
-                    }
-                }
+                int due = bestOf(10, size, tenants);
                 different += due > 0 ? 1 : 0;
                 Check.equal("bestSeed with " + tenants + " tenants, size " + size, guard.bestSeed(), due);
                 Check.equal("shard 0 behind bestSeed", guard.tenant(0, 0), (1 << size) - 1);
             }
         }
         Check.equal("seeds above 0 were due", different > 3 ? 1 : 0, 1);
+    }
+
+    private static int bestOf(int workers, int size, int tenants) {
+        int best = 0;
+        for (int seed = 1; seed <= 99; seed++) {
+            if (greatest(draw(workers, size, tenants, seed)) < greatest(draw(workers, size, tenants, best))) {
+                best = seed;
+            }
+        }
+        return best;
     }
 
     private static int greatest(int[] shards) {

@@ -5,6 +5,7 @@ public final class TextTest {
         feed();
         loadArguments();
         loadReplacesEverything();
+        loadForgetsWhatWasTried();
         grammar();
         settings();
         misplacedTokens();
@@ -95,6 +96,32 @@ public final class TextTest {
         guard.submit(0, 1, true);
         guard.pass(1);
         Check.equal("kills count anew", guard.tenant(0, 7), 1);
+    }
+
+    /** Looks ahead before load must leave nothing in what load makes: no kills, attempts, times or quarantines. */
+    private static void loadForgetsWhatWasTried() {
+        String text = "workers 2 size 1; limit 2; retries 1; restart 1; window 99; tenant 0; tenant 1;"
+            + "request 0 1 poisoned; request 1 2 poisoned; request 0 3;";
+        String fresh = Check.everything(Check.loaded(text));
+        ShardGuard later = Check.loaded(text);
+        later.pass(40);
+        String due = Check.everything(later);
+        for (int look = 0; look < 4; look++) {
+            ShardGuard guard = Check.loaded(text);
+            guard.pass(30);
+            if (look == 1) {
+                guard.poisonKills(0);
+            } else if (look == 2) {
+                guard.poisonHarm(1);
+            } else if (look == 3) {
+                guard.doneBehind(200);
+            }
+            Check.load(guard, text);
+            Check.equal("all behind load", Check.everything(guard), fresh);
+            Check.equal("pairs behind load", guard.killingPairs(), 0);
+            guard.pass(40);
+            Check.equal("all some ticks behind load", Check.everything(guard), due);
+        }
     }
 
     private static void grammar() {

@@ -310,6 +310,10 @@ public final class TickTest {
         guard.submit(0, 1, true);
         guard.pass(1);
         Check.equal("a killer is not done", guard.served(), 0.75f);
+        ShardGuard one = Check.loaded("workers 2 size 1; tenant 0; request 0 1;");
+        Check.equal("none of one", one.served(), 0.0f);
+        one.pass(1);
+        Check.equal("one of one", one.served(), 1.0f);
     }
 
     private static void submit() {
