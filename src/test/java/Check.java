@@ -1,9 +1,13 @@
-import java.util.NoSuchElementException;
+import java.io.IOException;
+import java.nio.file.Files;
+import java.nio.file.Path;
 
 /** What the tests share: comparing answers, feeding texts and telling everything that can be seen. */
 final class Check {
+    private static final String DOCUMENT = document();
     private static int compared = 0;
     private static int wrong = 0;
+    private static String said = "";
 
     interface Call {
         long answer();
@@ -50,10 +54,30 @@ final class Check {
         }
     }
 
+    /**
+     * Names the sentence of the document that the next comparisons stand for, which is told with those that are
+     * wrong. It must stand in the document in just these words, so that no test outlives its sentence.
+     */
+    static void says(String sentence) {
+        said = sentence;
+        if (!DOCUMENT.isEmpty()) {
+            equal("a search in the document", DOCUMENT.contains(sentence) ? "found" : "not found", "found");
+        }
+    }
+
+    /** The document in one line; empty where it cannot be read. */
+    private static String document() {
+        try {
+            return Files.readString(Path.of("../shared/DOC.md")).replaceAll("\\s+", " ");
+        } catch (IOException e) {
+            return "";
+        }
+    }
+
     private static void tellWrong(String text) {
         wrong++;
         if (wrong <= 50) {
-            System.out.println(text);
+            System.out.println(said.isEmpty() ? text : text + " (the document: " + said + ")");
         }
     }
 
@@ -101,6 +125,24 @@ final class Check {
         return guard;
     }
 
+    /** A fleet whose tenants have the first workers, all the same. */
+    static ShardGuard fleet(int workers, int size, int tenants) {
+        StringBuilder text = new StringBuilder("workers " + workers + " size " + size + ";");
+        for (int tenant = 0; tenant < tenants; tenant++) {
+            text.append("tenant");
+            for (int worker = 0; worker < size; worker++) {
+                text.append(' ').append(worker);
+            }
+            text.append(';');
+        }
+        return loaded(text.toString());
+    }
+
+    /** Lengthens a text to a length by blanks. */
+    static String filled(String text, int length) {
+        return text + " ".repeat(length - text.length());
+    }
+
     static String formatted(ShardGuard guard, int worker) {
         guard.format(worker);
         return lastFormatted(guard);
@@ -108,8 +150,8 @@ final class Check {
 
     static String lastFormatted(ShardGuard guard) {
         StringBuilder text = new StringBuilder();
-        for (int i = 0; guard.formattedByte(i) != ShardGuard.NONE; i++) {
-            text.append((char) guard.formattedByte(i));
+        for (int sign = guard.formattedByte(0); sign != ShardGuard.NONE; sign = guard.formattedByte(text.length())) {
+            text.append((char) sign);
         }
         return text.toString();
     }
@@ -131,6 +173,11 @@ final class Check {
 
     /** Tells all that undoing restores, and how much can be undone. */
     static String everything(ShardGuard guard) {
+        return everything(guard, 0, 1);
+    }
+
+    /** Tells of the requests only the first one named and each some steps behind it, as 60 take too many calls. */
+    static String everything(ShardGuard guard, int first, int step) {
         StringBuilder all = new StringBuilder();
         row(all, "size", 10, guard::size);
         row(all, "setting", 5, guard::setting);
@@ -144,7 +191,7 @@ final class Check {
             row(all, "tenant " + t, 9, what -> guard.tenant(t, what));
             row(all, "kills of " + t, guard.size(0), worker -> guard.killsOf(t, worker));
         }
-        for (int request = 0; request < guard.size(3); request++) {
+        for (int request = first; request < guard.size(3); request += step) {
             int r = request;
             row(all, "request " + r, 8, what -> guard.request(r, what));
         }

@@ -62,7 +62,7 @@ public final class ShardTest {
     }
 
     /** Draws shards with long arithmetic, as the document says it. */
-    private static int[] draw(int workers, int size, int tenants, int seed) {
+    static int[] draw(int workers, int size, int tenants, int seed) {
         long x = seed;
         int[] shards = new int[tenants];
         for (int tenant = 0; tenant < tenants; tenant++) {
@@ -84,7 +84,7 @@ public final class ShardTest {
     private static void drawn() {
         for (int workers = 2; workers <= 12; workers += 5) {
             for (int size = 1; size <= Math.min(4, workers); size++) {
-                ShardGuard guard = fleet(workers, size, 12);
+                ShardGuard guard = Check.fleet(workers, size, 12);
                 String before = Check.everything(guard);
                 for (int seed : SEEDS) {
                     int[] due = draw(workers, size, 12, seed);
@@ -103,26 +103,14 @@ public final class ShardTest {
         Check.illegal("drawn(0, least int)", () -> guard.drawn(0, Integer.MIN_VALUE));
     }
 
-    private static ShardGuard fleet(int workers, int size, int tenants) {
-        StringBuilder text = new StringBuilder("workers " + workers + " size " + size + ";");
-        for (int tenant = 0; tenant < tenants; tenant++) {
-            text.append("tenant");
-            for (int worker = 0; worker < size; worker++) {
-                text.append(' ').append(worker);
-            }
-            text.append(';');
-        }
-        return Check.loaded(text.toString());
-    }
-
     private static void bestSeed() {
         Check.equal("of no tenant", new ShardGuard().bestSeed(), 0);
-        Check.equal("of one tenant", fleet(5, 2, 1).bestSeed(), 0);
+        Check.equal("of one tenant", Check.fleet(5, 2, 1).bestSeed(), 0);
         // With seed 100 the greatest overlap would be smaller than with all seeds before.
-        Check.equal("seed 100 is not tried", fleet(11, 4, 11).bestSeed(), bestOf(11, 4, 11));
-        Check.equal("a great seed", fleet(11, 1, 8).bestSeed(), 95);
+        Check.equal("seed 100 is not tried", Check.fleet(11, 4, 11).bestSeed(), bestOf(11, 4, 11));
+        Check.equal("a great seed", Check.fleet(11, 1, 8).bestSeed(), 95);
         // A text that fails leaves the fleet, and so what would be drawn.
-        ShardGuard kept = fleet(10, 3, 7);
+        ShardGuard kept = Check.fleet(10, 3, 7);
         int seed0 = kept.drawn(6, 0);
         int best = kept.bestSeed();
         Check.load(kept, "workers 2 size 1; tenant 0; #");
@@ -132,7 +120,7 @@ public final class ShardTest {
         int different = 0;
         for (int tenants = 2; tenants <= 12; tenants++) {
             for (int size = 1; size <= 4; size++) {
-                ShardGuard guard = fleet(10, size, tenants);
+                ShardGuard guard = Check.fleet(10, size, tenants);
                 int due = bestOf(10, size, tenants);
                 different += due > 0 ? 1 : 0;
                 Check.equal("bestSeed with " + tenants + " tenants, size " + size, guard.bestSeed(), due);
@@ -164,11 +152,11 @@ public final class ShardTest {
 
     private static void meanOverlap() {
         Check.equal("of none", new ShardGuard().meanOverlap(), 0.0);
-        Check.equal("of one", fleet(4, 2, 1).meanOverlap(), 0.0);
-        Check.equal("of two", fleet(4, 2, 2).meanOverlap(), 2.0);
+        Check.equal("of one", Check.fleet(4, 2, 1).meanOverlap(), 0.0);
+        Check.equal("of two", Check.fleet(4, 2, 2).meanOverlap(), 2.0);
         // Overlaps 1, 0, 2, 0, 1, 0 of the six pairs.
         Check.equal("of four", sample().meanOverlap(), 4.0 / 6.0);
-        Check.equal("of twelve", fleet(4, 3, 12).meanOverlap(), 3.0);
+        Check.equal("of twelve", Check.fleet(4, 3, 12).meanOverlap(), 3.0);
         Check.equal("of three", Check.loaded("workers 4 size 1; tenant 0; tenant 0; tenant 1;").meanOverlap(), 1.0 / 3.0);
     }
 
