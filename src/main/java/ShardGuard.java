@@ -1356,23 +1356,22 @@ public final class ShardGuard {
     private static final class QueryText {
         private static final int PLACE = 8;
 
-        /** Open counts the 'not' and '(' round a part, which bounds how deep the parts go. */
+        /**
+         * Open counts the 'not' and '(' round a part, which bounds how deep the parts go. Conjunctions have no
+         * method of their own, so that calls go no deeper than they may.
+         */
         private static long test(Tokens tokens, Fleet fleet, int open) {
-            long held = conjunction(tokens, fleet, open);
-            for (int i = 0; i < LONGEST_QUERY && tokens.is("or"); i++) {
+            long before = 0L;
+            long conjunction = factor(tokens, fleet, open);
+            boolean isOr = tokens.is("or");
+            for (int i = 0; i < LONGEST_QUERY && (isOr || tokens.is("and")); i++) {
                 tokens.advance();
-                held |= conjunction(tokens, fleet, open);
+                long next = factor(tokens, fleet, open);
+                before = isOr ? before | conjunction : before;
+                conjunction = isOr ? next : conjunction & next;
+                isOr = tokens.is("or");
             }
-            return held;
-        }
-
-        private static long conjunction(Tokens tokens, Fleet fleet, int open) {
-            long held = factor(tokens, fleet, open);
-            for (int i = 0; i < LONGEST_QUERY && tokens.is("and"); i++) {
-                tokens.advance();
-                held &= factor(tokens, fleet, open);
-            }
-            return held;
+            return before | conjunction;
         }
 
         private static long factor(Tokens tokens, Fleet fleet, int open) {
