@@ -7,19 +7,27 @@ public final class OperationTest {
         format();
         longestFormat();
         undo();
+        looksAreNotRecorded();
         undoOfEach();
         snapshot();
+        laterSnapshot();
         killsComeBack();
         Check.end();
     }
 
-    private static void kill() {
-        ShardGuard guard = Check.loaded("workers 3 size 2; restart 4; tenant 0 1; tenant 0 2;"
+    private static ShardGuard fiveQueued() {
+        return Check.loaded("workers 3 size 2; restart 4; tenant 0 1; tenant 0 2;"
             + "request 0 5; request 1 6; request 0 7; request 1 2; request 0 3 poisoned;");
-        String before = Check.everything(guard);
-        Check.noSuch("kill(-1)", () -> guard.kill(-1));
-        Check.noSuch("kill(3)", () -> guard.kill(3));
-        Check.equal("all behind exceptions", Check.everything(guard), before);
+    }
+
+    private static ShardGuard firstDown() {
+        ShardGuard guard = fiveQueued();
+        guard.kill(0);
+        return guard;
+    }
+
+    private static void kill() {
+        ShardGuard guard = fiveQueued();
         Check.equal("queue 0", Check.formatted(guard, 0), "w0 up 0:5 3:2 4!:3");
         Check.equal("kill(0)", guard.kill(0), 2);
         Check.equal("down", guard.worker(0, 0), 0);
@@ -27,18 +35,19 @@ public final class OperationTest {
         Check.equal("no kill", guard.worker(0, 4), 0);
         Check.equal("queue 0", guard.worker(0, 2), 0);
         Check.equal("queue 1", Check.formatted(guard, 1), "w1 up 2:7 0:5 4!:3");
-        before = Check.everything(guard);
-        Check.equal("kill(0) again", guard.kill(0), -2);
-        Check.equal("all behind the error", Check.everything(guard), before);
         Check.equal("kill(2)", guard.kill(2), 1);
         Check.equal("kill(1)", guard.kill(1), 0);
         Check.equal("undo", guard.undo(), 2);
         Check.equal("undo", guard.undo(), 1);
-        Check.equal("all behind undo", Check.everything(guard), before);
+        Check.equal("all behind undo", Check.everything(guard), Check.everything(firstDown()));
         guard.pass(3);
         Check.equal("still down", guard.kill(0), -2);
         guard.pass(1);
         Check.equal("up again", guard.kill(0), 2);
+        Refused refused = new Refused(OperationTest::firstDown);
+        refused.noSuch("kill(-1)", other -> other.kill(-1));
+        refused.noSuch("kill(3)", other -> other.kill(3));
+        refused.answers("kill(0) again", other -> other.kill(0), -2);
     }
 
     private static void release() {
@@ -137,28 +146,41 @@ public final class OperationTest {
         Check.equal("the last byte", guard.formattedByte(due.length() - 1), '0');
     }
 
-    private static void undo() {
+    private static ShardGuard changed(int changes) {
         ShardGuard guard = Check.loaded("workers 3 size 1; tenant 0; tenant 1;");
-        Check.equal("undo of nothing", guard.undo(), ShardGuard.NONE);
-        String[] all = new String[40];
-        for (int i = 0; i < 37; i++) {
-            all[i] = guardTold(guard);
+        for (int i = 0; i < changes; i++) {
             change(guard, i);
             Check.equal("undoCount", guard.undoCount(), Math.min(10, i + 1));
         }
-        for (int i = 36; i >= 27; i--) {
-            Check.equal("undo", guard.undo(), i - 27);
-            Check.equal("undoCount", guard.undoCount(), i - 27);
-            Check.equal("all behind undo " + i, guardTold(guard), all[i]);
+        return guard;
+    }
+
+    private static void undo() {
+        Check.equal("undo of nothing", changed(0).undo(), ShardGuard.NONE);
+        for (int undone = 1; undone <= 11; undone++) {
+            ShardGuard guard = changed(37);
+            for (int left = 9; left >= 0 && left > 9 - undone; left--) {
+                Check.equal("undo", guard.undo(), left);
+                Check.equal("undoCount", guard.undoCount(), left);
+            }
+            if (undone == 11) {
+                Check.equal("the 11th undo", guard.undo(), ShardGuard.NONE);
+            }
+            String due = guardTold(changed(37 - Math.min(10, undone)));
+            Check.equal("all behind " + undone + " times undo", guardTold(guard), due);
         }
-        Check.equal("the 11th undo", guard.undo(), ShardGuard.NONE);
-        Check.equal("all behind it", guardTold(guard), all[27]);
         // Operations behind undo are recorded anew.
+        ShardGuard guard = changed(3);
+        guard.undo();
         change(guard, 1);
-        Check.equal("undoCount", guard.undoCount(), 1);
-        Check.equal("undo", guard.undo(), 0);
-        Check.equal("all behind undo", guardTold(guard), all[27]);
-        // Calls that are no operations are not recorded.
+        Check.equal("undoCount", guard.undoCount(), 3);
+        Check.equal("undo", guard.undo(), 2);
+        Check.equal("all behind undo", guardTold(guard), guardTold(changed(2)));
+    }
+
+    /** Calls that are no operations are not recorded. */
+    private static void looksAreNotRecorded() {
+        ShardGuard guard = changed(4);
         guard.format(0);
         guard.saveSnapshot();
         guard.bestSeed();
@@ -167,8 +189,7 @@ public final class OperationTest {
         guard.poisonHarm(0);
         guard.drawn(0, 5);
         Check.query(guard, "many 0=0");
-        Check.equal("undoCount behind looks", guard.undoCount(), 0);
-        Check.equal("all behind looks", guardTold(guard), all[27]);
+        Check.equal("all behind looks", Check.everything(guard), Check.everything(changed(4)));
     }
 
     private static String guardTold(ShardGuard guard) {
@@ -190,26 +211,27 @@ public final class OperationTest {
         }
     }
 
-    private static void undoOfEach() {
+    private static ShardGuard passed(int rounds) {
         ShardGuard guard = Check.loaded("workers 4 size 2; limit 2; restart 3; tenant 0 1; tenant 1 2; tenant 2 3;"
             + "request 0 2 poisoned; request 0 7; request 1 4; request 1 5; request 2 6 poisoned;");
-        for (int i = 0; i < 9; i++) {
+        for (int i = 0; i < rounds; i++) {
             guard.pass(1 + i % 3);
-            String before = guardTold(guard);
-            int saved = guard.undoCount();
-            guard.submit(i % 3, 1 + i, i % 2 == 0);
-            guard.kill(i % 4);
-            guard.pass(1 + i);
-            guard.draw(i);
-            guard.move(i % 3, 12);
-            guard.set(i % 5, 2);
-            guard.release(i % 3);
-            for (int left = guard.undoCount(); left > saved; left--) {
-                guard.undo();
+        }
+        return guard;
+    }
+
+    private static void undoOfEach() {
+        for (int rounds = 0; rounds < 9; rounds++) {
+            ShardGuard guard = passed(rounds);
+            int[] answers = {guard.submit(rounds % 3, 1 + rounds, rounds % 2 == 0), guard.kill(rounds % 4),
+                guard.pass(1 + rounds), guard.draw(rounds), guard.move(rounds % 3, 12), guard.set(rounds % 5, 2),
+                guard.release(rounds % 3)};
+            for (int answer : answers) {
+                if (answer >= 0) {
+                    guard.undo();
+                }
             }
-            if (saved < 3) {
-                Check.equal("all behind undo of each", guardTold(guard), before);
-            }
+            Check.equal("all behind undo of each", guardTold(guard), guardTold(passed(rounds)));
         }
     }
 
@@ -261,6 +283,13 @@ public final class OperationTest {
         guard.pass(5);
         Check.equal("restore again", guard.restoreSnapshot() ? 1 : 0, 1);
         Check.equal("all behind it", guardTold(guard), saved);
+    }
+
+    private static void laterSnapshot() {
+        ShardGuard guard = Check.loaded("workers 3 size 1; limit 1; tenant 0; tenant 1; request 0 1 poisoned; request 1 9;");
+        guard.pass(1);
+        guard.saveSnapshot();
+        String saved = guardTold(guard);
         // A later snapshot replaces it; undo does not touch it.
         guard.pass(1);
         guard.saveSnapshot();

